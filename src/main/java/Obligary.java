@@ -28,9 +28,8 @@ public final class Obligary {
     private final ArrayList<Rule> rules = new ArrayList<>();
     private int today = 0;
 
-    // Scratch rows, written anew by each call that needs them: all that a run makes is counted, so
-    // no call makes rows of its own.
-    private final int[] openDays = new int[MAX_RULES];
+    // Scratch, laid anew by each call that needs it: all that a run makes is counted, so no call
+    // makes a row of its own.
     private final int[] laidEfforts = new int[DAYS];
 
     public Obligary() {
@@ -170,8 +169,8 @@ public final class Obligary {
         if (due == NONE) {
             throw new NoSuchElementException("the rule has no open duty");
         }
-        lookUpOpenDays();
-        if (leastBlocker(rule) != NONE) {
+        foreseeOpenDuties();
+        if (leastBlocker(finishing) != NONE) {
             throw new IllegalStateException("the open duty is blocked");
         }
         finishing.finished++;
@@ -188,9 +187,9 @@ public final class Obligary {
     }
 
     public int blockedBy(int rule) throws IndexOutOfBoundsException {
-        checkRule(rule);
-        lookUpOpenDays();
-        return leastBlocker(rule);
+        Rule asked = ruleAt(rule);
+        foreseeOpenDuties();
+        return leastBlocker(asked);
     }
 
     public int overdue() {
@@ -206,13 +205,14 @@ public final class Obligary {
     public int order(int until, int place) throws IndexOutOfBoundsException {
         checkDay(until);
         checkPlace(place);
-        lookUpOpenDays();
+        foreseeOpenDuties();
         for (int done = 0; done < MAX_DUTIES; done++) {
             int chosen = nextInOrder(until);
             if (chosen == NONE || done == place) {
                 return chosen;
             }
-            openDays[chosen] = rules.get(chosen).firstDueFrom(openDays[chosen] + 1);
+            Rule rule = ruleAt(chosen);
+            rule.foreseenDay = rule.firstDueFrom(rule.foreseenDay + 1);
         }
         return NONE;
     }
@@ -317,14 +317,10 @@ public final class Obligary {
         checkRange(shift, FOLLOWING, SKIP);
     }
 
-    private void checkRule(int rule) {
+    private Rule ruleAt(int rule) {
         if (rule < 0 || rule >= rules.size()) {
             throw new IndexOutOfBoundsException("there is no such rule");
         }
-    }
-
-    private Rule ruleAt(int rule) {
-        checkRule(rule);
         return rules.get(rule);
     }
 
@@ -340,34 +336,35 @@ public final class Obligary {
         }
     }
 
-    private void lookUpOpenDays() {
-        for (int i = 0; i < rules.size() && i < MAX_RULES; i++) {
-            openDays[i] = rules.get(i).openDay();
+    private void foreseeOpenDuties() {
+        for (int i = 0; i < rules.size(); i++) {
+            Rule rule = rules.get(i);
+            rule.foreseenDay = rule.openDay();
         }
     }
 
-    /** The least rule that blocks a rule if the open duties are due as openDays says; NONE if there is none. */
-    private int leastBlocker(int rule) {
-        if (rule < 0 || rule >= rules.size() || rule >= MAX_RULES || openDays[rule] == NONE) {
-            return NONE;
-        }
-        Rule blocked = rules.get(rule);
-        for (int i = 0; i < rules.size() && i < MAX_RULES; i++) {
-            if (blocked.requires(i) && openDays[i] != NONE && openDays[i] <= openDays[rule]) {
+    /** The least rule that blocks the foreseen duty of a rule; NONE if there is none. */
+    private int leastBlocker(Rule blocked) {
+        for (int i = 0; i < rules.size(); i++) {
+            Rule other = rules.get(i);
+            boolean hasDuty = other.foreseenDay != NONE;
+            if (blocked.requires(i) && hasDuty && other.foreseenDay <= blocked.foreseenDay) {
                 return i;
             }
         }
         return NONE;
     }
 
-    /** The rule to be finished next if the open duties are due as openDays says; NONE if there is none. */
+    /** The rule whose foreseen duty is to be finished next; NONE if there is none. */
     private int nextInOrder(int until) {
         int chosen = NONE;
         int leastDay = until + 1;
-        for (int i = 0; i < rules.size() && i < MAX_RULES; i++) {
-            if (openDays[i] != NONE && openDays[i] < leastDay && leastBlocker(i) == NONE) {
+        for (int i = 0; i < rules.size(); i++) {
+            Rule rule = rules.get(i);
+            boolean hasDuty = rule.foreseenDay != NONE;
+            if (hasDuty && rule.foreseenDay < leastDay && leastBlocker(rule) == NONE) {
                 chosen = i;
-                leastDay = openDays[i];
+                leastDay = rule.foreseenDay;
             }
         }
         return chosen;
@@ -475,6 +472,9 @@ public final class Obligary {
         int needed = 0;
         int finished = 0;
         int evidenceFrom = NONE;
+        // Scratch: the due day of the open duty, or of the one that is open later in an order that
+        // is only foreseen; NONE if there is none.
+        int foreseenDay = NONE;
         private final boolean[] dueDays = new boolean[DAYS];
 
         Rule(int kind, int n, int shift, int first, int effort, int validity) {

@@ -18,14 +18,22 @@ final class Check {
         due(call, got ? 1 : 0, want ? 1 : 0);
     }
 
-    /** Asks for the very class: the machine's own exceptions are subclasses of those that are due. */
+    /**
+     * Asks for the very class, thrown by a statement of Obligary itself: what the machine or the library throws is a
+     * subclass, or comes from elsewhere.
+     */
     static void thrown(Class<? extends RuntimeException> want, String call, Runnable run) {
         answers++;
         Class<?> got = null;
         try {
             run.run();
         } catch (RuntimeException e) {
-            got = e.getClass();
+            StackTraceElement[] trace = e.getStackTrace();
+            boolean isOwn = trace.length > 0 && trace[0].getClassName().startsWith("Obligary");
+            got = isOwn ? e.getClass() : RuntimeException.class;
+            if (!isOwn) {
+                e.printStackTrace(System.out);
+            }
         }
         if (got != want) {
             wrong++;

@@ -12,6 +12,7 @@ final class DueDaysTest {
         last();
         holidaysMove();
         nothingToMoveTo();
+        endsOfTheCalendar();
         rulesChange();
         wrongArguments();
         walkingAgrees();
@@ -139,6 +140,18 @@ final class DueDaysTest {
         Check.due("nothing after: nextDueByWalking(0, 0)", end.nextDueByWalking(0, 0), Obligary.NONE);
         end.setShift(0, Obligary.PRECEDING);
         firstDueDays("before the first day of the rule", end, 716);
+    }
+
+    private static void endsOfTheCalendar() {
+        Obligary start = with(0, 60, Obligary.FOLLOWING, 0);
+        start.holiday(0);
+        firstDueDays("day 0, following", start, 1, 60);
+        Obligary end = with(1, 0, Obligary.PRECEDING, 0);
+        Check.due("there is no month 24: nextDue(0, 691)", end.nextDue(0, 691), Obligary.NONE);
+        Check.due("there is no month 24: nextDueByWalking(0, 691)", end.nextDueByWalking(0, 691), Obligary.NONE);
+        end = with(1, 29, Obligary.PRECEDING, 0);
+        Check.due("day 719, preceding: nextDue(0, 718)", end.nextDue(0, 718), 718);
+        Check.due("day 719, preceding: nextDueByWalking(0, 718)", end.nextDueByWalking(0, 718), 718);
     }
 
     private static void rulesChange() {

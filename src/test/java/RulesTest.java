@@ -11,6 +11,7 @@ final class RulesTest {
         setShift();
         require();
         requireRefusesCircles();
+        requireKeepsAllNeeds();
         Check.end();
     }
 
@@ -146,5 +147,20 @@ final class RulesTest {
         Check.due("require(7, 5)", o.require(7, 5), true);
         Check.due("require(6, 5)", o.require(6, 5), true);
         Check.thrown(STATE, "require(5, 6)", () -> o.require(5, 6));
+    }
+
+    private static void requireKeepsAllNeeds() {
+        Obligary o = withDailyRules(5);
+        o.require(0, 1);
+        o.require(0, 2);
+        o.require(3, 0);
+        o.require(3, 4);
+        Check.thrown(STATE, "require(1, 0), required first", () -> o.require(1, 0));
+        Check.thrown(STATE, "require(2, 0), required next", () -> o.require(2, 0));
+        Check.thrown(STATE, "require(1, 3), over others", () -> o.require(1, 3));
+        Check.thrown(STATE, "require(2, 3), over others", () -> o.require(2, 3));
+        Check.due("require(1, 2)", o.require(1, 2), true);
+        Check.due("require(1, 4)", o.require(1, 4), true);
+        Check.thrown(STATE, "require(4, 0), over another", () -> o.require(4, 0));
     }
 }

@@ -1,5 +1,13 @@
-/** Counts and prints the answers that are not due; each test ends with end(). */
+/** Counts and prints the answers that are not due; each test ends with end(). A test that does not end fails. */
 final class Check {
+    private static final int MINUTES = 5;
+
+    static {
+        Thread watch = new Thread(Check::failAfterMinutes);
+        watch.setDaemon(true);
+        watch.start();
+    }
+
     private static int answers = 0;
     private static int wrong = 0;
     private static int sentences = 0;
@@ -65,6 +73,17 @@ final class Check {
     private static void wrong(String what) {
         wrong++;
         System.out.println(sentence.isEmpty() ? what : sentence + ": " + what);
+    }
+
+    private static void failAfterMinutes() {
+        try {
+            Thread.sleep(MINUTES * 60_000L);
+        } catch (InterruptedException e) {
+            return;
+        }
+        System.out.println(sentence + ": a call does not end");
+        System.out.flush();
+        Runtime.getRuntime().halt(1);
     }
 
     static void end() {

@@ -223,7 +223,7 @@ final class DueDaysTest {
     }
 
     private static void walkingOverManyDaysOff() {
-        Check.sentence("Promise 14: or whether one of the days off next to it, in the direction that the shift tells, is");
+        Check.sentence("Promise 14: one of the days off next to it, in the direction that the shift tells");
         Obligary o = Given.rule(MONTHLY, 10, FOLLOWING, 0);
         Given.allOff(o, 10, 65);
         Check.due("FOLLOWING: nextDueByWalking(0, 0)", o.nextDueByWalking(0, 0), 66);

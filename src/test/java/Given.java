@@ -53,8 +53,8 @@ final class Given {
     }
 
     static void passTo(Obligary o, int day) {
-        while (o.today() < day) {
-            o.pass(Math.min(100, day - o.today()));
+        for (int left = day - o.today(); left > 0; left -= 100) {
+            o.pass(Math.min(100, left));
         }
     }
 }

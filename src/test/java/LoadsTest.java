@@ -409,7 +409,7 @@ final class LoadsTest {
     }
 
     private static void argumentsToLevel() {
-        Check.sentence("Promise 26: Throws IllegalArgumentException if to is less than from, or capacity is out of range");
+        Check.sentence("Promise 26: IllegalArgumentException if to is less than from, or capacity is out of range");
         Obligary o = onDay(9, 4);
         int[][] turned = {{1, 0}, {10, 9}, {719, 718}, {719, 0}};
         for (int[] span : turned) {
@@ -514,7 +514,7 @@ final class LoadsTest {
     }
 
     private static void argumentsForLevelled() {
-        Check.sentence("Promise 27: Throws IllegalArgumentException if to is less than from, or capacity is out of range");
+        Check.sentence("Promise 27: IllegalArgumentException if to is less than from, or capacity is out of range");
         Obligary o = onDay(9, 4);
         int[][] turned = {{1, 0}, {10, 9}, {719, 718}, {719, 0}};
         for (int[] span : turned) {

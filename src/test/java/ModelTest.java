@@ -107,7 +107,8 @@ final class ModelTest {
 
     private void addRule() {
         int kind = around(0, 3);
-        int n = kind == 1 ? around(0, 29) : kind != 0 ? around(1, 22) : random.nextBoolean() ? between(1, 9) : around(1, 60);
+        int every = random.nextBoolean() ? between(1, 9) : around(1, 60);
+        int n = kind == 0 ? every : kind == 1 ? around(0, 29) : around(1, 22);
         int shift = around(0, 2);
         int first = day();
         int effort = around(1, 9);

@@ -40,6 +40,7 @@ final class TermsOfDaysTest {
         ascendingEachOnce();
         numberedFrom0();
         asTheyAreWhenAsked();
+        daysBeforeTodayToo();
         Check.end();
     }
 
@@ -274,8 +275,8 @@ final class TermsOfDaysTest {
         Check.due("MONTHLY, day 2 from 3 on", Given.rule(MONTHLY, 2, SKIP, 3).dueDay(0, 0), 32);
         Check.due("NTH, 3rd from 2 on", Given.rule(NTH, 3, SKIP, 2).dueDay(0, 0), 2);
         Check.due("NTH, 3rd from 3 on", Given.rule(NTH, 3, SKIP, 3).dueDay(0, 0), 32);
-        Check.due("NTH, 1st from 1 on, as months are counted from their start", Given.rule(NTH, 1, SKIP, 1).dueDay(0, 0),
-                30);
+        Check.due("NTH, 1st from 1 on: months are counted from their start",
+                Given.rule(NTH, 1, SKIP, 1).dueDay(0, 0), 30);
         Check.due("LAST, last from 29 on", Given.rule(LAST, 1, SKIP, 29).dueDay(0, 0), 29);
         Check.due("LAST, last from 30 on", Given.rule(LAST, 1, SKIP, 30).dueDay(0, 0), 59);
         Check.dueDays("712 is before 713, though it would be moved to 714", Given.rule(MONTHLY, 22, FOLLOWING, 713), 0);
@@ -407,7 +408,8 @@ final class TermsOfDaysTest {
 
     private static void ascendingEachOnce() {
         Check.sentence("a rule has due days in ascending order, each once");
-        Check.dueDays("moved on to a nominal day", Given.rule(EVERY, 1, FOLLOWING, 711), 0, 711, 714, 715, 716, 717, 718);
+        Check.dueDays("moved on to a nominal day", Given.rule(EVERY, 1, FOLLOWING, 711), 0, 711, 714, 715, 716, 717,
+                718);
         Check.dueDays("moved back to a nominal day", Given.rule(EVERY, 1, PRECEDING, 711), 0, 711, 714, 715, 716, 717,
                 718);
         Check.dueDays("moved back together", Given.rule(EVERY, 1, PRECEDING, 712), 0, 711, 714, 715, 716, 717, 718);
@@ -455,5 +457,19 @@ final class TermsOfDaysTest {
         Check.dueDays(when, o, 0, third);
         Check.dueDays(when, o, 1, thirdFromEnd);
         Check.dueDays(when, o, 2, moved);
+    }
+
+    private static void daysBeforeTodayToo() {
+        Check.sentence("They follow from the rules and holidays: before today as after it");
+        Obligary o = Given.rule(EVERY, 60, FOLLOWING, 690);
+        Given.passTo(o, 719);
+        Check.dueDays("on the last day", o, 0, 690);
+        o.holiday(690);
+        Check.dueDays("a holiday before today", o, 0, 693);
+        o.setShift(0, PRECEDING);
+        Check.dueDays("a shift changed after it", o, 0, 689);
+        Check.due("a rule added after its days", o.addRule(EVERY, 60, SKIP, 700, 1, 0), 1);
+        Check.dueDays("a rule added after its days", o, 1, 700);
+        Check.due("overdue()", o.overdue(), 2);
     }
 }

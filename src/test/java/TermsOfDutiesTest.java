@@ -188,7 +188,8 @@ final class TermsOfDutiesTest {
     private static void twoWaysAreNoCircle() {
         Check.sentence("no rule requires itself: two ways to one rule, or a rule required by several, are no circle");
         Obligary o = Given.daily(8);
-        int[][] links = {{0, 1}, {0, 2}, {1, 3}, {2, 3}, {0, 3}, {2, 1}, {4, 0}, {4, 3}, {3, 5}, {4, 5}, {6, 7}, {6, 5}};
+        int[][] links = {{0, 1}, {0, 2}, {1, 3}, {2, 3}, {0, 3}, {2, 1}, {4, 0}, {4, 3}, {3, 5}, {4, 5}, {6, 7},
+            {6, 5}};
         for (int[] link : links) {
             Check.due("require(" + link[0] + ", " + link[1] + ")", o.require(link[0], link[1]), true);
         }
@@ -298,7 +299,7 @@ final class TermsOfDutiesTest {
     }
 
     private static void evidenceFromTodayBothWith() {
-        Check.sentence("When a duty is finished, the rule has evidence from today to today and its validity, both with");
+        Check.sentence("When a duty is finished .. evidence from today to today and its validity, together, both with");
         Obligary o = new Obligary();
         o.addRule(EVERY, 60, SKIP, 40, 1, 10);
         o.addRule(EVERY, 60, SKIP, 40, 1, 99);
